@@ -1064,7 +1064,7 @@ public final class DryDock {
                     top--;
                     stack[top - 1] = joined(item, stack[top - 1], stack[top]);
                 } else if (item > NOT && top < STACK) {
-                    stack[top] = item >= 0 ? item : valueOf(item, state, ship);
+                    stack[top] = item >= 0 ? item : measure(item, state, ship);
                     top++;
                 }
             }
@@ -1082,18 +1082,18 @@ public final class DryDock {
             }
         }
 
-        private static int valueOf(int item, State state, int ship) {
+        private static int measure(int item, State state, int ship) {
             switch (item) {
                 case LEVEL: return state.level;
                 case TIDE: return state.tideNow();
                 case HOUR: return state.hour % TIDES;
                 case OPEN: return state.open ? 1 : 0;
                 case DRY: return state.level <= DRY_LEVEL ? 1 : 0;
-                default: return valueOfShip(item, state, ship);
+                default: return measureOfShip(item, state, ship);
             }
         }
 
-        private static int valueOfShip(int item, State state, int ship) {
+        private static int measureOfShip(int item, State state, int ship) {
             boolean none = ship < 0 || ship >= SHIPS;
             switch (item) {
                 case SHIP: return none ? 9 : ship;

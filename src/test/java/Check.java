@@ -94,11 +94,11 @@ final class Check {
         is("fault of law \"" + text + "\"", want, x::fault);
     }
 
-    /** All that can be asked without the tape, as one text: two docks of like texts are alike. */
+    /** All that can be asked without the tape, but for the acts remembered, as one text: alike, if two docks are. */
     static String all(DryDock x) {
         StringBuilder s = new StringBuilder();
-        for (int i = -1; i <= 15; i++) {
-            s.append(x.count(i)).append(i == 15 ? ";" : ",");
+        for (int i = 0; i <= 13; i++) {
+            s.append(x.count(i)).append(i == 13 ? ";" : ",");
         }
         for (int ship = 0; ship < x.count(0); ship++) {
             for (int what = 0; what <= 12; what++) {
