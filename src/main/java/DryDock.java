@@ -47,14 +47,14 @@ public final class DryDock {
     private static final int UNTIL_EASE = 2;
 
     private final Tape tape = new Tape();
-    private final DockReader dockReader = new DockReader(tape);
-    private final LawReader lawReader = new LawReader(tape);
     private final State now = new State();
     private final State spare = new State();
     private final State kept = new State();
     private final Law rules = new Law();
     private final Law spareRules = new Law();
     private final Law keptRules = new Law();
+    private final DockReader dockReader = new DockReader(tape, spare);
+    private final LawReader lawReader = new LawReader(tape, spareRules);
     private final Past past = new Past();
     private final Curves curves = new Curves();
     private final Soundings soundings = new Soundings();
@@ -89,7 +89,7 @@ public final class DryDock {
 
     public int dock() throws IllegalArgumentException, UnsupportedOperationException {
         spare.copy(now);
-        wrongByte = dockReader.read(spare);
+        wrongByte = dockReader.readLines(DOCK_LINES);
         tape.size = 0;
         if (wrongByte != NONE) {
             throw new IllegalArgumentException("the text of the dock is wrong");
@@ -104,7 +104,8 @@ public final class DryDock {
     }
 
     public int law() throws IllegalArgumentException {
-        wrongByte = lawReader.read(spareRules);
+        spareRules.clear();
+        wrongByte = lawReader.readLines(LAW_LINES);
         tape.size = 0;
         if (wrongByte != NONE) {
             throw new IllegalArgumentException("the text of the law is wrong");
@@ -590,112 +591,138 @@ public final class DryDock {
     }
 
     /**
-     * Reads signs, words and numbers from the tape. What does not stand there is not passed over: so, when a text is
-     * wrong, the reader is at its first wrong byte.
+     * Reads words, numbers and other signs (things) from the tape. What cannot stand there is not passed over: so, when
+     * a text is wrong, the next thing is the first wrong one. Behind the last one stands an empty thing at the end.
      */
     private abstract static class Reader {
+        private static final int BLANK = 0;
+        private static final int LETTER = 1;
+        private static final int DIGIT = 2;
+        private static final int OTHER = 3;
+
         final Tape tape;
-        int at;
+        int next;
         int value;
+        private int things;
+        private final int[] kinds = new int[TAPE_BYTES + 1];
+        private final int[] begins = new int[TAPE_BYTES + 1];
+        private final int[] ends = new int[TAPE_BYTES + 1];
 
         Reader(Tape tape) {
             this.tape = tape;
         }
 
+        abstract boolean readLine();
+
         /** LINE { ; LINE }: NONE, or the first wrong byte. */
         final int readLines(int mostLines) {
-            moveTo(0);
-            if (at == tape.size) {
+            split();
+            if (things == 0) {
                 return NONE;
             }
             for (int line = 0; line < mostLines; line++) {
                 if (!readLine()) {
-                    return at;
+                    return begins[next];
                 }
-                if (at == tape.size) {
+                if (next == things) {
                     return NONE;
                 }
                 if (!takeSign(';')) {
-                    return at;
+                    return begins[next];
                 }
             }
-            return at;
+            return begins[next];
         }
 
-        abstract boolean readLine();
-
-        final void moveTo(int index) {
-            at = index;
-            while (at < tape.size && tape.sign(at) == ' ') {
-                at++;
+        private void split() {
+            next = 0;
+            things = 0;
+            int before = BLANK;
+            for (int at = 0; at < tape.size; at++) {
+                int kind = kindOf(tape.bytes[at]);
+                if (things > 0 && kind == before && (kind == LETTER || kind == DIGIT)) {
+                    ends[things - 1] = at + 1;
+                } else if (kind != BLANK) {
+                    kinds[things] = kind;
+                    begins[things] = at;
+                    ends[things] = at + 1;
+                    things++;
+                }
+                before = kind;
             }
+            kinds[things] = BLANK;
+            begins[things] = tape.size;
+            ends[things] = tape.size;
+        }
+
+        private static int kindOf(int sign) {
+            if (sign >= 'a' && sign <= 'z') {
+                return LETTER;
+            }
+            if (sign >= '0' && sign <= '9') {
+                return DIGIT;
+            }
+            return sign == ' ' ? BLANK : OTHER;
         }
 
         final boolean takeSign(char sign) {
-            if (tape.sign(at) != sign) {
+            int begin = begins[next];
+            if (kinds[next] != OTHER || tape.bytes[begin] != sign) {
                 return false;
             }
-            moveTo(at + 1);
+            next++;
             return true;
         }
 
         final boolean takeWord(String word) {
-            int size = word.length();
+            int begin = begins[next];
+            int size = ends[next] - begin;
+            if (kinds[next] != LETTER || size != word.length()) {
+                return false;
+            }
             for (int i = 0; i < size; i++) {
-                if (tape.sign(at + i) != word.charAt(i)) {
+                if (tape.bytes[begin + i] != word.charAt(i)) {
                     return false;
                 }
             }
-            if (isLetter(tape.sign(at + size))) {
-                return false;
-            }
-            moveTo(at + size);
+            next++;
             return true;
         }
 
         final boolean atNumber() {
-            return isDigit(tape.sign(at));
+            return kinds[next] == DIGIT;
         }
 
         final boolean takeNumber(int least, int greatest) {
-            int digits = 0;
-            int number = 0;
-            while (digits < 4 && isDigit(tape.sign(at + digits))) {
-                number = 10 * number + tape.sign(at + digits) - '0';
-                digits++;
+            int begin = begins[next];
+            int digits = ends[next] - begin;
+            if (kinds[next] != DIGIT || digits > 3) {
+                return false;
             }
-            if (digits < 1 || digits > 3 || number < least || number > greatest) {
+            int number = 0;
+            for (int i = 0; i < digits; i++) {
+                number = 10 * number + tape.bytes[begin + i] - '0';
+            }
+            if (number < least || number > greatest) {
                 return false;
             }
             value = number;
-            moveTo(at + digits);
+            next++;
             return true;
-        }
-
-        private static boolean isLetter(int sign) {
-            return sign >= 'a' && sign <= 'z';
-        }
-
-        private static boolean isDigit(int sign) {
-            return sign >= '0' && sign <= '9';
         }
     }
 
-    /** Reads a text of THE DOCK into a state that the caller throws away, if the text is wrong. */
+    /** Reads a text of THE DOCK into the spare state, of which nothing is used, if the text is wrong. */
     private static final class DockReader extends Reader {
-        private State into;
+        private final State into;
 
-        DockReader(Tape tape) {
+        DockReader(Tape tape, State into) {
             super(tape);
-        }
-
-        int read(State state) {
-            into = state;
-            return readLines(DOCK_LINES);
+            this.into = into;
         }
 
         boolean readLine() {
-            int begin = at;
+            int begin = next;
             if (takeWord("ship")) {
                 return readShip(begin);
             }
@@ -760,7 +787,7 @@ public final class DryDock {
 
         private boolean readShip(int begin) {
             if (into.ships >= SHIPS) {
-                at = begin;
+                next = begin;
                 return false;
             }
             if (!takeWord("length") || !takeNumber(1, LONGEST_SHIP)) {
@@ -790,12 +817,12 @@ public final class DryDock {
         }
 
         private boolean takeFreePlace(int length) {
-            int begin = at;
+            int begin = next;
             if (!takeNumber(0, PLACES - 1)) {
                 return false;
             }
             if (!isRoom(into.takenPlaces(), value, length)) {
-                at = begin;
+                next = begin;
                 return false;
             }
             return true;
@@ -828,20 +855,15 @@ public final class DryDock {
         }
     }
 
-    /** Reads THE LAW into rules whose conditions stand as code, each operation behind what it works on. */
+    /** Reads THE LAW into the spare rules, whose conditions stand as code, each operation behind what it works on. */
     private static final class LawReader extends Reader {
         private static final int DEEPEST = 6;
 
-        private Law into;
+        private final Law into;
 
-        LawReader(Tape tape) {
+        LawReader(Tape tape, Law into) {
             super(tape);
-        }
-
-        int read(Law rules) {
-            into = rules;
-            into.clear();
-            return readLines(LAW_LINES);
+            this.into = into;
         }
 
         boolean readLine() {
@@ -894,11 +916,11 @@ public final class DryDock {
         }
 
         private boolean readAtom(int deep) {
-            int begin = at;
+            int begin = next;
             boolean negated = takeWord("not");
             boolean nested = !negated && takeSign('(');
             if ((negated || nested) && deep >= DEEPEST) {
-                at = begin;
+                next = begin;
                 return false;
             }
             if (negated) {
@@ -947,30 +969,25 @@ public final class DryDock {
             if (takeNumber(0, 999)) {
                 return into.add(value);
             }
-            int part = takePart();
-            return part != 0 && into.add(part);
-        }
-
-        private int takePart() {
             if (takeWord("ship")) {
-                return Law.SHIP;
+                return into.add(Law.SHIP);
             }
             if (takeWord("length")) {
-                return Law.LENGTH;
+                return into.add(Law.LENGTH);
             }
             if (takeWord("draught")) {
-                return Law.DRAUGHT;
+                return into.add(Law.DRAUGHT);
             }
             if (takeWord("work")) {
-                return Law.WORK;
+                return into.add(Law.WORK);
             }
             if (takeWord("level")) {
-                return Law.LEVEL;
+                return into.add(Law.LEVEL);
             }
             if (takeWord("tide")) {
-                return Law.TIDE;
+                return into.add(Law.TIDE);
             }
-            return takeWord("hour") ? Law.HOUR : 0;
+            return takeWord("hour") && into.add(Law.HOUR);
         }
     }
 
@@ -993,7 +1010,7 @@ public final class DryDock {
         static final int LESS = -15;
         static final int MORE = -16;
 
-        /** Each of the six levels holds two results back at most, and a comparison two numbers more. */
+        /** Far above what is needed: six levels, each with two results held back at most, and a sum in a comparison. */
         private static final int STACK = 32;
 
         int lines = NONE;
@@ -1083,24 +1100,19 @@ public final class DryDock {
         }
 
         private static int measure(int item, State state, int ship) {
-            switch (item) {
-                case LEVEL: return state.level;
-                case TIDE: return state.tideNow();
-                case HOUR: return state.hour % TIDES;
-                case OPEN: return state.open ? 1 : 0;
-                case DRY: return state.level <= DRY_LEVEL ? 1 : 0;
-                default: return measureOfShip(item, state, ship);
-            }
-        }
-
-        private static int measureOfShip(int item, State state, int ship) {
             boolean none = ship < 0 || ship >= SHIPS;
+            int clock = state.hour % TIDES;
             switch (item) {
                 case SHIP: return none ? 9 : ship;
                 case LENGTH: return none ? 0 : state.length[ship];
                 case DRAUGHT: return none ? 0 : state.draught[ship];
                 case WORK: return none ? 0 : state.work[ship];
-                case HURT: return !none && state.isHurt(ship) ? 1 : 0;
+                case LEVEL: return state.level;
+                case TIDE: return state.tides[clock];
+                case HOUR: return clock;
+                case OPEN: return state.open ? 1 : 0;
+                case DRY: return state.level <= DRY_LEVEL ? 1 : 0;
+                case HURT: return none ? 0 : state.hurtShips >> ship & 1;
                 default: return 0;
             }
         }

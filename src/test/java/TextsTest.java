@@ -286,6 +286,12 @@ public final class TextsTest {
         Check.law(x, "fee 1 if not dry and open;fee 2 if not (dry and open);fee 4 if open or dry and hurt;"
                 + "fee 8 if 3 < 3;fee 16 if 3 > 3;fee 32 if 1 + 1 + 1 < 2 + 2");
         Check.is("not binds the nearest, and before or", 2 + 4 + 32, () -> held(x, 0));
+        DryDock deep = new DryDock();
+        String within = "dry or open and (";
+        Check.law(deep, "pull 5 if " + within.repeat(6) + "dry or open and 1 + 2 < 3 + 4))))));"
+                + "leak 7 if " + within.repeat(6) + "dry or open and 3 + 4 < 1 + 2))))))");
+        Check.is("six deep, and it holds", 2 + 5, deep::pulls);
+        Check.is("six deep, and it does not hold", 0, deep::leaks);
         DryDock two = Check.dock("ship length 1 draught 1;level 2");
         Check.law(two, "fee 1 if dry;fee 2 if 0 < 1;fee 4 if 0 > 0");
         Check.is("dry at 2", 1 + 2, () -> held(two, 0));
