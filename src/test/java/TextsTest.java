@@ -9,6 +9,7 @@ public final class TextsTest {
         twelveTexts();
         laws();
         lawFaults();
+        fullTapes();
         lawKeepsNothing();
         meanings();
         Check.end("TextsTest");
@@ -250,6 +251,25 @@ public final class TextsTest {
         Check.lawFault(x, twelve + "; x", 73);
         Check.lawFault(x, "", -1);
         Check.is("fault is of the latest text", -1, x::fault);
+    }
+
+    /** The tape at its fullest: 400 things, and the longest sum. */
+    private static void fullTapes() {
+        DryDock x = new DryDock();
+        Check.dockFault(x, ";".repeat(400), 0);
+        Check.lawFault(x, ";".repeat(400), 0);
+        Check.lawFault(x, "fee 1 if " + "(".repeat(391), 15);
+        Check.dockFault(x, " ".repeat(400), -1);
+        Check.dockFault(x, "x".repeat(400), 0);
+        Check.dockFault(x, "level " + "0".repeat(394), 6);
+        Check.dockFault(x, "level 7" + " ".repeat(392) + ";", 400);
+        Check.lawFault(x, "pull 7 if 1" + "+1".repeat(190) + ">190", -1);
+        Check.is("191 is above 190", 9, x::pulls);
+        Check.lawFault(x, "pull 7 if 1" + "+1".repeat(190) + ">191", -1);
+        Check.is("191 is not above 191", 2, x::pulls);
+        Check.lawFault(x, "pull 7 if dry" + " or dry".repeat(54) + " or open", -1);
+        Check.is("the last of many", 9, x::pulls);
+        Check.lawFault(x, "pull 7 if 1" + "+1".repeat(194) + "+", 400);
     }
 
     private static void lawKeepsNothing() {
