@@ -3,6 +3,12 @@ final class Check {
     private static int wrong = 0;
     private static int asked = 0;
 
+    static final String INDEX = "IndexOutOfBoundsException";
+    static final String ARGUMENT = "IllegalArgumentException";
+    static final String STATE = "IllegalStateException";
+    static final String ELEMENT = "NoSuchElementException";
+    static final String UNSUPPORTED = "UnsupportedOperationException";
+
     interface Call {
         Object run() throws Exception;
     }
@@ -121,6 +127,73 @@ final class Check {
         int seed = x.seed(0);
         x.seed(seed);
         return s.append(",seed ").append(seed).toString();
+    }
+
+    /** All of a dock: what can be asked, the acts behind one another, the image, and what the tape has. Uses x up. */
+    static String whole(DryDock x) {
+        StringBuilder s = new StringBuilder(all(x)).append(", acts ").append(x.count(14));
+        int size = x.feed(0, 0, 0, 0, 0);
+        x.end(size == -1 ? 400 : size - 20);
+        s.append(", tape ").append(size);
+        for (int i = 0; i < 13 && x.undo(); i++) {
+            s.append(", ahead ").append(counts(x));
+        }
+        s.append(", back ").append(x.back()).append(' ').append(counts(x));
+        return s.append(", dock ").append(answer(x::dock)).append(' ').append(x.fault()).append(counts(x)).toString();
+    }
+
+    private static String counts(DryDock x) {
+        StringBuilder s = new StringBuilder();
+        for (int i = 0; i <= 14; i++) {
+            s.append(x.count(i)).append(' ');
+        }
+        int seed = x.seed(0);
+        x.seed(seed);
+        return s.append(seed).toString();
+    }
+
+    interface Maker {
+        DryDock make();
+    }
+
+    interface Deed {
+        Object on(DryDock x) throws Exception;
+    }
+
+    /** The call throws, and all is as on an object made alike that was not called. */
+    static void refused(String what, String exception, Maker maker, Deed deed) {
+        DryDock called = maker.make();
+        DryDock other = maker.make();
+        is(what, "throws." + exception, () -> deed.on(called));
+        is(what + ": fault", other.fault(), called::fault);
+        is(what + ": nothing changed", whole(other), () -> whole(called));
+    }
+
+    /** The call throws and uses the tape up; but for that, and fault(), all is as on an object that was not called. */
+    static void refusedTape(String what, String exception, int fault, Maker maker, Deed deed) {
+        DryDock called = maker.make();
+        DryDock other = maker.make();
+        other.end(0);
+        is(what, "throws." + exception, () -> deed.on(called));
+        is(what + ": fault", fault, called::fault);
+        is(what + ": nothing changed but the tape", whole(other), () -> whole(called));
+    }
+
+    /** A text of the dock in which | stands ahead of the first wrong byte; without one it is right. */
+    static void dockAt(DryDock x, String marked) {
+        dockFault(x, marked.replace("|", ""), marked.indexOf('|'));
+    }
+
+    static void dockAt(String marked) {
+        dockAt(new DryDock(), marked);
+    }
+
+    static void lawAt(DryDock x, String marked) {
+        lawFault(x, marked.replace("|", ""), marked.indexOf('|'));
+    }
+
+    static void lawAt(String marked) {
+        lawAt(new DryDock(), marked);
     }
 
     /** Ends the test: with exit code 1, if an answer was not the one that is due. */
