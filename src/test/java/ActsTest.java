@@ -190,17 +190,28 @@ public final class ActsTest {
         Check.is("five of each", 5, () -> x.led(3, false));
     }
 
-    private static void undone() {
+    /** So many acts, each unlike all others, on a new object. */
+    private static DryDock acted(int acts) {
         DryDock x = new DryDock();
-        String[] states = new String[16];
-        for (int i = 0; i < 15; i++) {
-            states[i] = Check.all(x);
+        for (int i = 0; i < acts; i++) {
             x.flow(i % 12, 11 + i);
         }
+        return x;
+    }
+
+    private static void undone() {
+        for (int undone = 1; undone <= 12; undone++) {
+            DryDock x = acted(15);
+            for (int i = 0; i < undone; i++) {
+                Check.is("undo", true, x::undo);
+            }
+            int left = 15 - undone;
+            Check.is("as behind act " + left, Check.all(acted(left)), () -> Check.all(x));
+        }
+        DryDock x = acted(15);
         Check.is("12 are remembered", 12, () -> x.count(14));
-        for (int i = 14; i >= 3; i--) {
-            Check.is("undo", true, x::undo);
-            Check.is("as ahead of act " + i, states[i], () -> Check.all(x));
+        for (int i = 0; i < 12; i++) {
+            x.undo();
         }
         Check.is("no more", false, x::undo);
         Check.is("none", 0, () -> x.count(14));

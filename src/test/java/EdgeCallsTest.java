@@ -259,9 +259,10 @@ public final class EdgeCallsTest {
             y -> y.led(0, true), y -> y.log(0, 0), y -> y.count(0)};
         String before = Check.all(x);
         for (int i = 0; i < asks.length; i++) {
-            asks[i].on(x);
-            Check.is("ask " + i, before, () -> Check.all(x));
-            Check.is("ask " + i + " is no act", 2, () -> x.count(14));
+            DryDock asked = busy();
+            asks[i].on(asked);
+            Check.is("ask " + i, before, () -> Check.all(asked));
+            Check.is("ask " + i + " is no act", 2, () -> asked.count(14));
         }
         x.end(0);
         x.feed(0, 0, 0, 0, 0);
@@ -296,26 +297,38 @@ public final class EdgeCallsTest {
         Check.is("a refused act is none to undo", before, () -> Check.all(x));
     }
 
+    /** So many acts, behind each of which it is otherwise, on a new object. */
+    private static DryDock acted(int acts) {
+        DryDock x = new DryDock();
+        for (int i = 0; i < acts; i++) {
+            x.flow(i % 12, (i + 1) % 31);
+        }
+        return x;
+    }
+
+    private static void undoneSo(int acts, int undone, int left) {
+        DryDock x = acted(acts);
+        for (int i = 0; i < undone; i++) {
+            Check.is("undone", true, x::undo);
+        }
+        Check.is(undone + " of " + acts + " undone", Check.all(acted(acts - undone)), () -> Check.all(x));
+        Check.is("left", left, () -> x.count(14));
+    }
+
     /** "(12 are remembered": with 11, 12 and 13 acts. */
     private static void twelveActs() {
         for (int n = 0; n <= 30; n++) {
-            DryDock x = new DryDock();
-            String[] ahead = new String[n];
-            for (int i = 0; i < n; i++) {
-                ahead[i] = Check.all(x);
-                x.flow(i % 12, (i + 1) % 31);
+            int remembered = Math.min(n, 12);
+            for (int undone = 0; undone <= remembered; undone++) {
+                undoneSo(n, undone, remembered - undone);
             }
-            Check.is(n + " acts", Math.min(n, 12), () -> x.count(14));
-            for (int i = n - 1; i >= 0 && i >= n - 12; i--) {
-                int left = i - Math.max(0, n - 12);
-                Check.is("undone", true, x::undo);
-                Check.is("as ahead of " + i + " of " + n, ahead[i], () -> Check.all(x));
-                Check.is("left", left, () -> x.count(14));
+            DryDock x = acted(n);
+            for (int i = 0; i < remembered; i++) {
+                x.undo();
             }
             Check.is("no more of " + n, false, x::undo);
             Check.is("none", 0, () -> x.count(14));
-            Check.is("nothing happened", n > 12 ? ahead[n - 12] : n == 0 ? Check.all(new DryDock()) : ahead[0],
-                    () -> Check.all(x));
+            Check.is("nothing happened", Check.all(acted(n - remembered)), () -> Check.all(x));
         }
         DryDock turns = new DryDock();
         for (int i = 0; i < 20; i++) {
@@ -518,8 +531,7 @@ public final class EdgeCallsTest {
         }
     }
 
-    /** All rows are as they were, when an act is undone or one goes back, though others came in between. */
-    private static void logUndoneAndKept() {
+    private static DryDock fiveLetIn() {
         DryDock x = new DryDock();
         for (int i = 0; i < 5; i++) {
             x.comes(1, 1, 0);
@@ -527,8 +539,14 @@ public final class EdgeCallsTest {
         for (int i = 0; i < 5; i++) {
             x.enter(i, i);
         }
+        return x;
+    }
+
+    /** All rows are as they were, when an act is undone or one goes back, though others came in between. */
+    private static void logUndoneAndKept() {
+        DryDock x = fiveLetIn();
         x.image();
-        String kept = Check.all(x);
+        String kept = Check.all(fiveLetIn());
         for (int i = 0; i < 5; i++) {
             x.undo();
         }
@@ -552,7 +570,7 @@ public final class EdgeCallsTest {
         Check.is("as in the image", kept, () -> Check.all(x));
         DryDock full = with40();
         full.image();
-        String all = Check.all(full);
+        String all = Check.all(with40());
         for (int i = 0; i < 8; i++) {
             full.undo();
         }

@@ -45,22 +45,34 @@ public final class EdgeInsideTest {
 
     /** "THE LOG: the latest 60 times". */
     private static void log() throws Exception {
-        DryDock x = Check.dock("ship length 1 draught 1;ship length 1 draught 1");
-        Object now = field(DryDock.class, "now").get(x);
-        Object log = field(now.getClass(), "log").get(now);
-        Method add = method(log.getClass(), "add");
-        for (int n = 0; n < 130; n++) {
-            add.invoke(log, n, n % 61 == 0 ? 1 : 0, n % 4, n % 24, n % 41);
-            int rows = Math.min(60, n + 1);
+        for (int times = 1; times <= 130; times++) {
+            DryDock x = logged(times);
+            int rows = Math.min(60, times);
             Check.is("rows", rows, () -> x.count(13));
             for (int ago : new int[] {0, 1, rows - 1, rows}) {
-                row(x, ago, n - ago, ago < rows && ago <= n);
+                row(x, ago, times - 1 - ago, ago < rows);
             }
         }
+        DryDock x = logged(130);
         Check.is("61 and 122 are of 1, but 61 is forgotten", 1, () -> x.led(1, false));
         Check.is("the latest of 1", 122, () -> x.led(1, true));
         Check.is("rows of 0", 59, () -> x.led(0, false));
-        copied(log);
+        copied(logOf(x));
+    }
+
+    private static Object logOf(DryDock x) throws Exception {
+        Object now = field(DryDock.class, "now").get(x);
+        return field(now.getClass(), "log").get(now);
+    }
+
+    private static DryDock logged(int times) throws Exception {
+        DryDock x = Check.dock("ship length 1 draught 1;ship length 1 draught 1");
+        Object log = logOf(x);
+        Method add = method(log.getClass(), "add");
+        for (int n = 0; n < times; n++) {
+            add.invoke(log, n, n % 61 == 0 ? 1 : 0, n % 4, n % 24, n % 41);
+        }
+        return x;
     }
 
     private static void row(DryDock x, int ago, int n, boolean is) {

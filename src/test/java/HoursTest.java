@@ -11,6 +11,7 @@ public final class HoursTest {
         ahead();
         firsts();
         trials();
+        spans();
         Check.end("HoursTest");
     }
 
@@ -212,16 +213,32 @@ public final class HoursTest {
         Check.is("span, greatest, of " + n, high, () -> x.span(n, true));
     }
 
-    private static void trials() {
+    private static DryDock surging() {
         DryDock x = Check.dock("ship length 1 draught 15 work 8 at 0;surge 5;tide 10 12;hands 3");
         x.seed(12345);
-        String before = Check.all(x);
-        int[] levels = new int[61];
-        int[] works = new int[61];
+        return x;
+    }
+
+    private static void trials() {
+        DryDock x = surging();
         for (int n = 0; n <= 60; n++) {
-            levels[n] = x.trial(n, false);
-            works[n] = x.trial(n, true);
+            int level = x.trial(n, false);
+            int work = x.trial(n, true);
+            DryDock come = surging();
+            if (n > 0) {
+                come.hours(n);
+            }
+            Check.is("trial is what comes", level, () -> come.count(3));
+            Check.is("trial is what comes", work, () -> come.count(12));
         }
+        Check.is("nothing stays of a trial", Check.all(surging()), () -> Check.all(x));
+        Check.is("61", "throws.IllegalArgumentException", () -> x.trial(61, false));
+        Check.is("-1", "throws.IllegalArgumentException", () -> x.trial(-1, true));
+    }
+
+    private static void spans() {
+        DryDock x = surging();
+        String before = Check.all(x);
         int least = 99;
         int most = -1;
         for (int seed = 1; seed <= 6; seed++) {
@@ -240,17 +257,8 @@ public final class HoursTest {
         Check.that("span is one", low < high);
         Check.is("span of 0", 10, () -> x.span(0, false));
         Check.is("span of 0", 10, () -> x.span(0, true));
-        Check.is("nothing stays", before, () -> Check.all(x));
-        Check.is("61", "throws.IllegalArgumentException", () -> x.trial(61, false));
-        Check.is("-1", "throws.IllegalArgumentException", () -> x.trial(-1, true));
+        Check.is("nothing stays of a span", before, () -> Check.all(x));
         Check.is("61", "throws.IllegalArgumentException", () -> x.span(61, false));
         Check.is("-1", "throws.IllegalArgumentException", () -> x.span(-1, true));
-        for (int n = 0; n <= 60; n++) {
-            int level = levels[n];
-            int work = works[n];
-            Check.is("trial is what comes", level, () -> x.count(3));
-            Check.is("trial is what comes", work, () -> x.count(12));
-            x.hours(1);
-        }
     }
 }

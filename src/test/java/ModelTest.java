@@ -9,6 +9,7 @@ import java.util.Random;
 public final class ModelTest {
     private static final Class<?> I = int.class;
     private static final Class<?> B = boolean.class;
+    private static final int MOST_CALLS = 512;
 
     private final Random random;
     private final DryDock dock = new DryDock();
@@ -45,7 +46,7 @@ public final class ModelTest {
         if (seed % 3 == 0) {
             text(lawText(), "law");
         }
-        while (calls < 480 && wrong < 5) {
+        while (calls < MOST_CALLS && wrong < 5) {
             oneMore();
         }
     }
@@ -370,17 +371,15 @@ public final class ModelTest {
 
     private void all() throws Exception {
         for (int i = 0; i < 15; i++) {
-            compareCount(i);
+            same("count", new Class<?>[] {I}, i);
         }
     }
 
-    private void compareCount(int i) {
-        if (dock.count(i) != model.count(i)) {
-            report("count(" + i + ")", String.valueOf(dock.count(i)), String.valueOf(model.count(i)));
-        }
-    }
-
+    /** Behind the 512th call of an object nothing is promised, so none is made. */
     private void same(String name, Class<?>[] types, Object... args) throws Exception {
+        if (calls >= MOST_CALLS) {
+            return;
+        }
         calls++;
         String call = name + java.util.Arrays.toString(args);
         String got = answer(dock, DryDock.class.getMethod(name, types), args);
